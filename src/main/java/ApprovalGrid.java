@@ -780,8 +780,8 @@ public final class ApprovalGrid {
         long sum = start;
         for (int kind = 0; kind < KINDS; kind++) {
             for (int period = 0; period < PERIODS; period++) {
-                sum = mixed(sum, left(kind, period));
-                sum = mixed(sum, leftWith(kind, period));
+                sum = mixed(sum, leftOf(kind, period, false));
+                sum = mixed(sum, leftOf(kind, period, true));
             }
         }
         return sum;
@@ -812,20 +812,17 @@ public final class ApprovalGrid {
         }
 
         int at(int row, int column) {
-            return has(row, column) ? cells[row * columns + column] : 0;
+            boolean isInside = row >= 0 && row < rows && column >= 0 && column < columns;
+            return isInside ? cells[row * columns + column] : 0;
         }
 
         /** Puts a value, and returns the one before. */
         int replace(int row, int column, int value) {
             int before = at(row, column);
-            if (has(row, column)) {
+            if (row >= 0 && row < rows && column >= 0 && column < columns) {
                 cells[row * columns + column] = value;
             }
             return before;
-        }
-
-        private boolean has(int row, int column) {
-            return row >= 0 && row < rows && column >= 0 && column < columns;
         }
     }
 

@@ -17,6 +17,7 @@ public final class ChargesTest {
         pointsAndTrust();
         splits();
         splitMatchesTwo();
+        splitWhileAway();
         splitKeepsPoints();
         splitRefuses();
         tellsOfCharges();
@@ -74,6 +75,11 @@ public final class ChargesTest {
         desk.trip(1, 1, 30, 30, 20);
         checks.noState("more than the trip has", desk, () -> desk.charge(1, 0, 1, 21, 0));
         checks.same("all the trip has", desk.charge(1, 0, 1, 20, 0), 3);
+        desk.rate(0, 3, 30);
+        desk.plan(3, 1, 1000);
+        desk.charge(1, 3, 0, 500, 0);
+        checks.same("left with receipts", desk.leftWith(3, 1), 615);
+        checks.noState("more than is left without them", desk, () -> desk.charge(1, 3, 0, 501, 0));
     }
 
     private static void chargesAreThirty() {
@@ -184,6 +190,8 @@ public final class ChargesTest {
         checks.same("the better receipt", desk.ofCharge(0, 5), 1);
         checks.same("matched as it comes", desk.ofCharge(0, 4), 1);
         checks.same("a point", desk.ofPerson(1, 2), 1);
+        desk.charge(0, 0, 0, 100, 0);
+        checks.same("without a boss: approved as it comes", desk.ofCharge(1, 4), 2);
     }
 
     private static void pointsAndTrust() {
@@ -249,13 +257,28 @@ public final class ChargesTest {
         checks.same("and its receipt, too", desk.ofReceipt(0), 1);
         checks.same("with points as ever", desk.ofPerson(1, 1), 6);
         checks.same("with points as ever", desk.ofPerson(1, 2), 0);
-        ApprovalGrid alone = Desks.chain(1);
-        alone.person(0);
-        alone.limit(1, 0, 500);
-        Desks.matched(alone, 1, 100);
-        alone.receipt(100, 0, 0);
-        alone.away(0, 0, 1);
-        checks.same("left out as its boss is away", alone.ofCharge(0, 4), 2);
+        ApprovalGrid other = Desks.chain(2);
+        other.charge(0, 0, 0, 101, 0);
+        other.charge(1, 0, 0, 100, 0);
+        checks.same("the better charge", other.receipt(100, 0, 0), 1);
+        checks.same("open by the split", other.split(1), 0);
+        checks.same("the receipt goes to the other", other.ofReceipt(0), 0);
+        checks.same("which is approved, without a boss", other.ofCharge(0, 4), 2);
+    }
+
+    private static void splitWhileAway() {
+        ApprovalGrid desk = Desks.chain(3);
+        int charge = Desks.matched(desk, 2, 600);
+        desk.receipt(600, 0, 0);
+        desk.approve(charge, 1);
+        desk.away(1, 9, 2);
+        checks.same("matched with the other receipt", desk.split(charge), 1);
+        checks.same("step 0 is left out now", desk.ofCharge(charge, 9), 1);
+        checks.same("step 1 is of the boss above", desk.ofCharge(charge, 10), 0);
+        desk.receipt(600, 0, 0);
+        desk.away(1, 0, 0);
+        checks.same("once more", desk.split(charge), 1);
+        checks.same("not left out any more", desk.ofCharge(charge, 9), 0);
     }
 
     private static void splitKeepsPoints() {

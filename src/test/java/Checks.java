@@ -25,7 +25,7 @@ final class Checks {
         }
     }
 
-    /** The call throws just this exception, and the desk answers as ahead of it. */
+    /** The call throws just this exception, by the class itself and not the library, and the desk answers as ahead. */
     void refused(String what, Class<? extends RuntimeException> due, ApprovalGrid desk, Call call) {
         made++;
         long before = desk.digest();
@@ -34,6 +34,9 @@ final class Checks {
             call.make();
         } catch (RuntimeException e) {
             thrown = e.getClass();
+            if (!e.getStackTrace()[0].getClassName().equals("ApprovalGrid")) {
+                tell(what + " threw by " + e.getStackTrace()[0]);
+            }
         }
         if (thrown != due) {
             tell(what + " threw " + thrown + ", due is " + due);

@@ -98,7 +98,8 @@ public final class FaceTest {
         for (Field field : ApprovalGrid.class.getDeclaredFields()) {
             int modifiers = field.getModifiers();
             checks.same("private: " + field, Modifier.isPrivate(modifiers), true);
-            checks.same("final if static: " + field, !Modifier.isStatic(modifiers) || Modifier.isFinal(modifiers), true);
+            boolean isKept = !Modifier.isStatic(modifiers) || Modifier.isFinal(modifiers);
+            checks.same("final if static: " + field, isKept, true);
         }
     }
 }

@@ -174,7 +174,8 @@ public final class ModelTest {
         int day = like[1];
         int text = random.nextInt(40) == 0 ? pick(-1, 10) : random.nextInt(3);
         String values = amount + ", " + day + ", " + text + ")";
-        alike("wouldMatch(" + values, () -> desk.wouldMatch(amount, day, text), () -> model.wouldMatch(amount, day, text));
+        alike("wouldMatch(" + values, () -> desk.wouldMatch(amount, day, text),
+                () -> model.wouldMatch(amount, day, text));
         if (model.papers.size() <= model.today / 3 + 5 || random.nextInt(10) == 0) {
             alike("receipt(" + values, () -> desk.receipt(amount, day, text), () -> model.receipt(amount, day, text));
         }
@@ -213,7 +214,8 @@ public final class ModelTest {
             case 2:
                 int kind = number(4);
                 int carry = pick(0, 33, 50, 100, -1, 101);
-                alike("carry(" + kind + ", " + carry + ")", () -> desk.carry(kind, carry), () -> model.carry(kind, carry));
+                alike("carry(" + kind + ", " + carry + ")", () -> desk.carry(kind, carry),
+                        () -> model.carry(kind, carry));
                 break;
             case 3:
                 int land = number(3);

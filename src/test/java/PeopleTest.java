@@ -166,6 +166,9 @@ public final class PeopleTest {
         checks.same("repaid of 2", desk.ofPerson(2, 5), 0);
         Desks.days(desk, 15);
         checks.same("repaid of 2 in the end", desk.ofPerson(2, 5), 200);
+        desk.refuse(0, 1);
+        desk.settle(0, true);
+        checks.same("repaid and settled", desk.ofPerson(2, 5), 300);
         checks.same("trust of 2 in the end", desk.ofPerson(2, 1), 3);
         checks.same("open of 2 in the end", desk.ofPerson(2, 4), 0);
         checks.noIndex("person 3", desk, () -> desk.ofPerson(3, 0));
