@@ -47,23 +47,30 @@ public final class WouldBeTest {
     }
 
     private static void trustBehind() {
-        ApprovalGrid desk = Desks.chain(2);
-        desk.charge(1, 0, 0, 100, 0);
-        desk.charge(1, 0, 0, 200, 0);
-        desk.charge(0, 0, 0, 300, 0);
         for (int day = 0; day <= 20; day++) {
+            ApprovalGrid desk = threeOpenOnes(day);
             for (int days = 0; days <= 30; days++) {
                 int end = day + days;
                 checks.same("day " + day + " and " + days, desk.trustBehind(1, days), end < 8 ? 5 : end < 15 ? 3 : 1);
                 checks.same("of the other", desk.trustBehind(0, days), end < 8 ? 5 : end < 15 ? 4 : 3);
             }
-            desk.day();
         }
+        ApprovalGrid desk = threeOpenOnes(21);
         checks.same("nothing is changed", desk.ofPerson(1, 1), 1);
         desk.charge(1, 0, 0, 100, 0);
         checks.same("not below 0", desk.trustBehind(1, 30), 0);
         desk.receipt(100, 21, 0);
         checks.same("matched ones cost nothing", desk.trustBehind(1, 30), 1);
+    }
+
+    /** Open charges that came so many days ago, two of person 1 and one of person 0. */
+    private static ApprovalGrid threeOpenOnes(int daysAgo) {
+        ApprovalGrid desk = Desks.chain(2);
+        desk.charge(1, 0, 0, 100, 0);
+        desk.charge(1, 0, 0, 200, 0);
+        desk.charge(0, 0, 0, 300, 0);
+        Desks.days(desk, daysAgo);
+        return desk;
     }
 
     private static void trustBehindOfOldOnes() {
