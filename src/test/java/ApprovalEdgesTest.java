@@ -24,12 +24,13 @@ public final class ApprovalEdgesTest {
         splitOnlyMatched();
         splitOpens();
         splitKeepsPoints();
-        approveOfSomebody();
-        approveOnlyMatched();
-        approveByNobodyElse();
-        refuseOfSomebody();
-        refuseOnlyMatched();
-        refuseByNobodyElse();
+        judgedBySomebody("15", "approve");
+        judgedBySomebody("16", "refuse");
+        judgedOnlyIfMatched("15", "approve");
+        judgedOnlyIfMatched("16", "refuse");
+        judgedByNobodyElse("15", "approve");
+        judgedByNobodyElse("16", "refuse");
+        approveTellsTheState();
         refuseTellsHowMany();
         settleOfACharge();
         settleOnlyDisputed();
@@ -59,7 +60,8 @@ public final class ApprovalEdgesTest {
         edges.answers(SIX + "charge 1 0 0 9999 0; receipt 9999 0 0", "approve 0 0", 2, "ofCharge 0 9", 1);
         edges.answers(SIX + "charge 2 0 0 9999 0; receipt 9999 0 0", "approve 0 1", 1, "approve 0 0", 2,
                 "ofCharge 0 9", 2);
-        edges.answers(SIX + "charge 3 0 0 9999 0; receipt 9999 0 0", "approve 0 2", 1, "approve 0 1", 1, "approve 0 0", 2,
+        edges.answers(SIX + "charge 3 0 0 9999 0; receipt 9999 0 0", "approve 0 2", 1, "approve 0 1", 1,
+                "approve 0 0", 2,
                 "ofCharge 0 9", 3);
     }
 
@@ -167,78 +169,46 @@ public final class ApprovalEdgesTest {
                 "ofPerson 5 1", 6, "split 0", 0, "ofPerson 5 1", 6);
     }
 
-    private static void approveOfSomebody() {
-        edges.sentence("15: Throws IndexOutOfBoundsException if there is no such CHARGE, or PERSON");
-        edges.index(SIX + "3 * charge 5 0 0 50 0; 3 * receipt 50 0 0", "approve # 4", 3);
-        edges.refused(MATCHED, "approve 0 6", Edges.INDEX);
-        edges.refused(MATCHED, "approve 0 -1", Edges.INDEX);
-        edges.refused(MATCHED, "approve 0 " + Integer.MAX_VALUE, Edges.INDEX);
-        edges.refused(MATCHED, "approve 0 " + Integer.MIN_VALUE, Edges.INDEX);
-        edges.refused(MATCHED, "approve 1 6", Edges.INDEX);
-        edges.sentence("15: no such PERSON, or CHARGE, and it is not MATCHED: what is named first");
-        edges.refused(OPEN, "approve 0 6", Edges.INDEX);
-        edges.refused(OPEN, "approve 0 -1", Edges.INDEX);
-        edges.refused(OPEN, "approve 1 4", Edges.INDEX);
-        edges.refused(APPROVED, "approve 0 -1", Edges.INDEX);
+    /** Promise 15 or 16: who may approve may refuse. */
+    private static void judgedBySomebody(String promise, String judge) {
+        edges.sentence(promise + ": Throws IndexOutOfBoundsException if there is no such CHARGE, or PERSON");
+        edges.index(SIX + "3 * charge 5 0 0 50 0; 3 * receipt 50 0 0", judge + " # 4", 3);
+        for (int nobody : new int[] {6, -1, Integer.MAX_VALUE, Integer.MIN_VALUE}) {
+            edges.refused(MATCHED, judge + " 0 " + nobody, Edges.INDEX);
+        }
+        edges.refused(MATCHED, judge + " 1 6", Edges.INDEX);
+        edges.sentence(promise + ": no such PERSON, or CHARGE, and it is not MATCHED: what is named first");
+        edges.refused(OPEN, judge + " 0 6", Edges.INDEX);
+        edges.refused(OPEN, judge + " 0 -1", Edges.INDEX);
+        edges.refused(OPEN, judge + " 1 4", Edges.INDEX);
+        edges.refused(APPROVED, judge + " 0 -1", Edges.INDEX);
     }
 
-    private static void approveOnlyMatched() {
-        edges.sentence("15: Throws IllegalStateException if it is not MATCHED");
+    private static void judgedOnlyIfMatched(String promise, String judge) {
+        edges.sentence(promise + ": Throws IllegalStateException if it is not MATCHED");
         for (String start : new String[] {OPEN, APPROVED, DISPUTED, REPAID, REPAID_BY_DAYS}) {
             for (int person = 0; person < 6; person++) {
-                edges.refused(start, "approve 0 " + person, Edges.STATE);
+                edges.refused(start, judge + " 0 " + person, Edges.STATE);
             }
         }
     }
 
-    private static void approveByNobodyElse() {
-        edges.sentence("15: Throws IllegalStateException if somebody else has to");
+    private static void judgedByNobodyElse(String promise, String judge) {
+        edges.sentence(promise + ": Throws IllegalStateException if somebody else has to");
         for (int person : new int[] {0, 1, 2, 3, 5}) {
-            edges.refused(MATCHED, "approve 0 " + person, Edges.STATE);
+            edges.refused(MATCHED, judge + " 0 " + person, Edges.STATE);
         }
         for (int person : new int[] {0, 1, 2, 4, 5}) {
-            edges.refused(MATCHED + "approve 0 4", "approve 0 " + person, Edges.STATE);
+            edges.refused(MATCHED + "approve 0 4", judge + " 0 " + person, Edges.STATE);
         }
-        edges.refused(MATCHED + "away 4 0 2", "approve 0 4", Edges.STATE);
-        edges.refused(MATCHED + "away 4 0 2; day", "approve 0 2", Edges.STATE);
+        edges.refused(MATCHED + "away 4 0 2", judge + " 0 4", Edges.STATE);
+        edges.refused(MATCHED + "away 4 0 2; day", judge + " 0 2", Edges.STATE);
+    }
+
+    private static void approveTellsTheState() {
         edges.sentence("15: Returns the state of the CHARGE then.");
         edges.answers(MATCHED, "approve 0 4", 1, "approve 0 3", 2);
-    }
-
-    private static void refuseOfSomebody() {
-        edges.sentence("16: Throws IndexOutOfBoundsException if there is no such CHARGE, or PERSON");
-        edges.index(SIX + "3 * charge 5 0 0 50 0; 3 * receipt 50 0 0", "refuse # 4", 3);
-        edges.refused(MATCHED, "refuse 0 6", Edges.INDEX);
-        edges.refused(MATCHED, "refuse 0 -1", Edges.INDEX);
-        edges.refused(MATCHED, "refuse 0 " + Integer.MAX_VALUE, Edges.INDEX);
-        edges.refused(MATCHED, "refuse 0 " + Integer.MIN_VALUE, Edges.INDEX);
-        edges.refused(MATCHED, "refuse 1 6", Edges.INDEX);
-        edges.sentence("16: no such PERSON, or CHARGE, and it is not MATCHED: what is named first");
-        edges.refused(OPEN, "refuse 0 6", Edges.INDEX);
-        edges.refused(OPEN, "refuse 0 -1", Edges.INDEX);
-        edges.refused(OPEN, "refuse 1 4", Edges.INDEX);
-        edges.refused(APPROVED, "refuse 0 -1", Edges.INDEX);
-    }
-
-    private static void refuseOnlyMatched() {
-        edges.sentence("16: Throws IllegalStateException if it is not MATCHED");
-        for (String start : new String[] {OPEN, APPROVED, DISPUTED, REPAID, REPAID_BY_DAYS}) {
-            for (int person = 0; person < 6; person++) {
-                edges.refused(start, "refuse 0 " + person, Edges.STATE);
-            }
-        }
-    }
-
-    private static void refuseByNobodyElse() {
-        edges.sentence("16: Throws IllegalStateException if somebody else has to");
-        for (int person : new int[] {0, 1, 2, 3, 5}) {
-            edges.refused(MATCHED, "refuse 0 " + person, Edges.STATE);
-        }
-        for (int person : new int[] {0, 1, 2, 4, 5}) {
-            edges.refused(MATCHED + "approve 0 4", "refuse 0 " + person, Edges.STATE);
-        }
-        edges.refused(MATCHED + "away 4 0 2", "refuse 0 4", Edges.STATE);
-        edges.answers(MATCHED + "away 4 0 2", "refuse 0 2", 1, "ofCharge 0 4", 4);
+        edges.answers(MATCHED + "away 4 0 2", "approve 0 2", 1, "ofCharge 0 4", 1);
     }
 
     private static void refuseTellsHowMany() {
@@ -246,9 +216,9 @@ public final class ApprovalEdgesTest {
         edges.answers(MATCHED, "refuse 0 4", 1, "ofCharge 0 4", 4, "ofCharge 0 9", 0, "ofCharge 0 5", 0, "many 7", 1);
         edges.answers(SIX + "3 * charge 5 0 0 50 0; 3 * receipt 50 0 0", "refuse 1 4", 1, "refuse 0 4", 2,
                 "settle 1 true", 3, "refuse 2 4", 2, "settle 0 false", 1, "refuse 0 4", 2);
+        edges.answers(MATCHED + "away 4 0 2", "refuse 0 2", 1, "ofCharge 0 4", 4);
         edges.sentence("16: a full desk, where all are DISPUTED");
-        String full = SIX + "30 * charge 5 0 0 50 0; 30 * receipt 50 0 0; ";
-        StringBuilder refused = new StringBuilder(full);
+        StringBuilder refused = new StringBuilder(SIX + "30 * charge 5 0 0 50 0; 30 * receipt 50 0 0; ");
         for (int charge = 0; charge < 29; charge++) {
             refused.append("refuse ").append(charge).append(" 4; ");
         }

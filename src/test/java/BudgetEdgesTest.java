@@ -166,8 +166,10 @@ public final class BudgetEdgesTest {
         edges.answers(open, "ofCharge 0 8", 260, "left 0 0", 740, "many 12", 260);
         String matched = open + "; receipt 260 0 0";
         edges.answers(matched, "ofCharge 0 8", 200, "left 0 0", 800, "many 12", 200);
-        edges.answers(matched + "; approve 0 2", "ofCharge 0 4", 2, "ofCharge 0 8", 200, "left 0 0", 800, "many 12", 200);
-        edges.answers(matched + "; refuse 0 2", "ofCharge 0 4", 4, "ofCharge 0 8", 260, "left 0 0", 740, "many 12", 260);
+        edges.answers(matched + "; approve 0 2", "ofCharge 0 4", 2, "ofCharge 0 8", 200, "left 0 0", 800,
+                "many 12", 200);
+        edges.answers(matched + "; refuse 0 2", "ofCharge 0 4", 4, "ofCharge 0 8", 260, "left 0 0", 740,
+                "many 12", 260);
         edges.answers(matched + "; refuse 0 2; settle 0 true", "ofCharge 0 4", 3, "ofCharge 0 8", 0, "left 0 0", 1000,
                 "many 12", 0);
         edges.answers(matched + "; refuse 0 2; settle 0 false", "ofCharge 0 8", 200, "left 0 0", 800);

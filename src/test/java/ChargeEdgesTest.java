@@ -87,7 +87,8 @@ public final class ChargeEdgesTest {
         edges.most(CHAIN + "trip 3 1 0 9 500; charge 3 0 1 300 0; 9 * day", "charge 3 0 1 # 0", 200, Edges.STATE);
         edges.most(CHAIN + "trip 3 1 0 9 500; charge 3 0 1 300 0; 10 * day", "charge 3 0 1 # 0", 8999, Edges.STATE);
         edges.refused(CHAIN + "trip 3 1 0 9 0", "charge 3 0 1 1 0", Edges.STATE);
-        edges.refused(CHAIN + "trip 3 1 0 9 500; charge 3 0 1 500 0; trip 3 1 0 9 500", "charge 3 0 1 1 0", Edges.STATE);
+        edges.refused(CHAIN + "trip 3 1 0 9 500; charge 3 0 1 500 0; trip 3 1 0 9 500", "charge 3 0 1 1 0",
+                Edges.STATE);
     }
 
     private static void notMoreThanIsLeft() {
@@ -128,7 +129,8 @@ public final class ChargeEdgesTest {
         edges.sentence("CHARGES: of a TRIP, if there was such a one then, or of none");
         edges.answers(CHAIN + "trip 3 1 1 2 500; charge 3 0 1 5 0; day; charge 3 0 1 5 1; day; charge 3 0 1 5 2; day"
                 + "; charge 3 0 1 5 3", "ofCharge 0 6", -1, "ofCharge 1 6", 0, "ofCharge 2 6", 0, "ofCharge 3 6", -1);
-        edges.answers(CHAIN + "charge 3 0 1 5 0; trip 3 1 0 9 500; charge 3 0 1 5 0; charge 2 0 1 5 0; charge 3 0 2 5 0",
+        String around = "charge 3 0 1 5 0; trip 3 1 0 9 500; charge 3 0 1 5 0; charge 2 0 1 5 0; charge 3 0 2 5 0";
+        edges.answers(CHAIN + around,
                 "ofCharge 0 6", -1, "ofCharge 1 6", 0, "ofCharge 2 6", -1, "ofCharge 3 6", -1, "maySpend 3 0 1", 495);
         edges.answers(CHAIN + "7 * trip 0 0 0 0 5; trip 3 1 0 9 500; charge 3 0 1 5 0", "ofCharge 0 6", 7);
     }
@@ -142,6 +144,7 @@ public final class ChargeEdgesTest {
         edges.refused(CHAIN + "limit 3 0 0", "charge 3 0 0 0 0", Edges.ARGUMENT);
         edges.refused(CHAIN + "limit 3 0 0", "charge 3 0 0 1 10", Edges.ARGUMENT);
         edges.refused(CHAIN + "plan 0 0 0", "charge 3 0 0 10000 0", Edges.ARGUMENT);
+        edges.refused(CHAIN + "plan 0 0 0", "charge 3 0 0 1 10", Edges.ARGUMENT);
         edges.refused(CHAIN + "plan 0 0 0; limit 3 0 0", "charge 3 0 0 1 0", Edges.STATE);
     }
 

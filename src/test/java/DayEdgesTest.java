@@ -34,21 +34,24 @@ public final class DayEdgesTest {
         edges.answers(CHAIN + "104 * day; charge 3 0 0 5 0; 14 * day", "day", 1, "ofCharge 0 4", 3, "many 10", 119);
         edges.sentence("Terms: the last DAY: all but the next one goes on");
         edges.answers(Starts.LAST_DAY, "charge 3 0 0 40 0", 9, "receipt 40 119 0", 9, "approve 9 2", 2,
-                "split 8", Edges.STATE, "settle 8 false", 1, "split 8", 0, "trip 3 2 119 119 50", 3, "maySpend 3 0 2", 50,
+                "split 8", Edges.STATE, "settle 8 false", 1, "split 8", 0, "trip 3 2 119 119 50", 3,
+                "maySpend 3 0 2", 50,
                 "left 0 3", 187157 - 800 - 59 - 300 - 34, "day", Edges.STATE);
     }
 
     private static void missingOnTheEighthDay() {
         edges.sentence("DAYS: one that came just 8 DAYS ago is MISSING: the TRUST of its PERSON is 1 less");
         edges.answers(OPEN + "6 * day", "day", 0, "ofCharge 0 11", 0, "ofPerson 3 1", 5, "day", 1, "ofCharge 0 11", 1,
-                "ofPerson 3 1", 4, "ofCharge 0 4", 0, "ofPerson 2 1", 5, "day", 0, "ofPerson 3 1", 4, "ofCharge 0 11", 1);
+                "ofPerson 3 1", 4, "ofCharge 0 4", 0, "ofPerson 2 1", 5, "day", 0, "ofPerson 3 1", 4,
+                "ofCharge 0 11", 1);
         edges.answers(CHAIN + "20 * day; charge 3 0 0 100 0; 7 * day", "day", 1, "ofCharge 0 11", 1);
     }
 
     private static void missingNoMoreThanOnce() {
         edges.sentence("DAYS: just 8 DAYS ago: one that was not OPEN then is not MISSING");
         edges.answers(MATCHED + "7 * day; split 0", "day", 1, "ofCharge 0 11", 1);
-        edges.answers(MATCHED + "8 * day; split 0", "ofCharge 0 11", 0, "day", 0, "ofCharge 0 11", 0, "ofPerson 3 1", 5);
+        edges.answers(MATCHED + "8 * day; split 0", "ofCharge 0 11", 0, "day", 0, "ofCharge 0 11", 0,
+                "ofPerson 3 1", 5);
         edges.answers(MATCHED + "9 * day; split 0", "day", 0, "ofCharge 0 11", 0);
         edges.sentence("18: 11 1 if it was ever MISSING");
         edges.answers(OPEN + "8 * day; receipt 100 0 0", "ofCharge 0 4", 1, "ofCharge 0 11", 1, "split 0", 0,

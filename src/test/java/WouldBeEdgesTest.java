@@ -46,7 +46,8 @@ public final class WouldBeEdgesTest {
         edges.answers(Starts.full(), "wouldMatch 700 0 0", 20, "wouldMatch 970 3 9", 29, "wouldMatch 690 0 0", 20,
                 "wouldMatch 689 0 0", -1, "wouldMatch 670 0 0", -1, "many 8", 30);
         edges.sentence("24: a RECEIPT that was SPLIT from a CHARGE is not the one that would come");
-        edges.answers(OPEN + "29 * receipt 5000 0 0; receipt 100 0 0; split 0", "ofCharge 0 5", -1, "wouldMatch 100 0 0", 0);
+        edges.answers(OPEN + "29 * receipt 5000 0 0; receipt 100 0 0; split 0", "ofCharge 0 5", -1,
+                "wouldMatch 100 0 0", 0);
         edges.answers(MATCHED + "split 0; 29 * receipt 5000 0 0", "wouldMatch 100 0 0", 0);
     }
 
@@ -135,8 +136,10 @@ public final class WouldBeEdgesTest {
                 "trustBehind 3 30", 3);
         edges.answers(CHAIN + "105 * day; charge 3 0 0 100 0", "trustBehind 3 14", 4, "trustBehind 3 15", 4,
                 "trustBehind 3 30", 4);
-        edges.answers(MATCHED + "119 * day; split 0", "trustBehind 3 0", 5, "trustBehind 3 1", 5, "trustBehind 3 30", 5);
-        edges.answers(MATCHED + "118 * day; split 0", "trustBehind 3 0", 5, "trustBehind 3 1", 4, "trustBehind 3 30", 4);
+        edges.answers(MATCHED + "119 * day; split 0", "trustBehind 3 0", 5, "trustBehind 3 1", 5,
+                "trustBehind 3 30", 5);
+        edges.answers(MATCHED + "118 * day; split 0", "trustBehind 3 0", 5, "trustBehind 3 1", 4,
+                "trustBehind 3 30", 4);
     }
 
     private static void leftWithOfAKindAndPeriod() {
@@ -158,7 +161,8 @@ public final class WouldBeEdgesTest {
         edges.answers(taxed + "receipt 130 0 0; refuse 0 2", "left 0 0", 610, "leftWith 0 0", 670);
         edges.answers(taxed + "receipt 130 0 0; refuse 0 2; settle 0 true", "left 0 0", 740, "leftWith 0 0", 800);
         edges.answers(taxed + "15 * day", "left 0 0", 1000, "leftWith 0 0", 1000);
-        edges.answers(taxed + "30 * day; charge 3 0 0 13 0", "left 0 1", 997, "leftWith 0 1", 1000, "leftWith 0 0", 1000);
+        edges.answers(taxed + "30 * day; charge 3 0 0 13 0", "left 0 1", 997, "leftWith 0 1", 1000,
+                "leftWith 0 0", 1000);
         edges.sentence("26: what would be LEFT, below 0 and above");
         edges.answers(taxed + "plan 0 0 300", "left 0 0", -90, "leftWith 0 0", 0, "left 0 1", 10, "leftWith 0 1", 10);
         edges.answers(taxed + "plan 0 0 299", "left 0 0", -91, "leftWith 0 0", -1, "leftWith 0 1", 10);
@@ -172,7 +176,8 @@ public final class WouldBeEdgesTest {
             edges.answers(start, "digest", checksum(start));
         }
         edges.sentence("27: many() of 0 to 12 and no more, with the whole of what is LEFT behind it");
-        edges.answers(Starts.EMPTY, "digest", BigInteger.valueOf(31).pow(45).multiply(BigInteger.valueOf(58110)).longValue());
+        edges.answers(Starts.EMPTY, "digest",
+                BigInteger.valueOf(31).pow(45).multiply(BigInteger.valueOf(58110)).longValue());
     }
 
     private static void digestWrapsAround() {
