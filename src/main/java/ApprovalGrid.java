@@ -1,6 +1,9 @@
 import java.util.ArrayList;
 
-/** A spending desk: cards with limits, charges, receipts, budgets and a chain that approves. */
+/**
+ * A spending desk: cards with limits, charges, receipts, budgets and a chain that approves.
+ * What each call does is not told here once more: the numbered promises of ../shared/DOC.md say it.
+ */
 public final class ApprovalGrid {
     private static final int NONE = -1;
 
@@ -46,13 +49,11 @@ public final class ApprovalGrid {
     private final Table rates = new Table(LANDS, KINDS);
     private int today = 0;
 
-    /** Creates a desk without people. */
     public ApprovalGrid() {
     }
 
     // ---- people
 
-    /** Adds a person below the boss (or NONE), and returns the number. */
     public int person(int boss) throws IndexOutOfBoundsException, IllegalStateException {
         Person above = boss == NONE ? null : personAt(boss);
         if (people.size() >= MOST_PEOPLE) {
@@ -63,7 +64,6 @@ public final class ApprovalGrid {
         return added.number;
     }
 
-    /** Sets a limit, and returns the one before. */
     public int limit(int person, int kind, int limit) throws IndexOutOfBoundsException, IllegalArgumentException {
         Person owner = personAt(person);
         checkKind(kind);
@@ -71,7 +71,6 @@ public final class ApprovalGrid {
         return limits.replace(owner.number, kind, limit);
     }
 
-    /** Lets a person be away up to a day, and returns whether it was away today ahead of that. */
     public boolean away(int person, int day, int other) throws IndexOutOfBoundsException, IllegalArgumentException {
         Person absent = personAt(person);
         Person standIn = personAt(other);
@@ -86,7 +85,6 @@ public final class ApprovalGrid {
         return wasAway;
     }
 
-    /** Adds a trip, and returns its number. */
     public int trip(int person, int land, int from, int to, int extra)
             throws IndexOutOfBoundsException, IllegalArgumentException, IllegalStateException {
         Person traveller = personAt(person);
@@ -102,7 +100,6 @@ public final class ApprovalGrid {
         return added.number;
     }
 
-    /** Returns the thing asked for of a person. */
     public int ofPerson(int person, int what) throws IndexOutOfBoundsException, IllegalArgumentException {
         Person asked = personAt(person);
         checkRange(what, 0, 6);
@@ -124,7 +121,6 @@ public final class ApprovalGrid {
         }
     }
 
-    /** Returns how much a person may spend today; it can be below 0. */
     public int maySpend(int person, int kind, int land) throws IndexOutOfBoundsException {
         Person spender = personAt(person);
         checkKind(kind);
@@ -134,7 +130,6 @@ public final class ApprovalGrid {
 
     // ---- budgets
 
-    /** Sets a plan, and returns the one before. */
     public int plan(int kind, int period, int plan) throws IndexOutOfBoundsException, IllegalArgumentException {
         checkKind(kind);
         checkPeriod(period);
@@ -142,14 +137,12 @@ public final class ApprovalGrid {
         return plans.replace(kind, period, plan);
     }
 
-    /** Sets the carry of a kind, and returns the one before. */
     public int carry(int kind, int carry) throws IndexOutOfBoundsException, IllegalArgumentException {
         checkKind(kind);
         checkRange(carry, 0, MOST_CARRY);
         return carries.replace(kind, 0, carry);
     }
 
-    /** Sets the rate of a land and a kind, and returns the one before. */
     public int rate(int land, int kind, int rate) throws IndexOutOfBoundsException, IllegalArgumentException {
         checkLand(land);
         checkKind(kind);
@@ -157,7 +150,6 @@ public final class ApprovalGrid {
         return rates.replace(land, kind, rate);
     }
 
-    /** Returns what is left of a kind and a period; it can be below 0. */
     public int left(int kind, int period) throws IndexOutOfBoundsException {
         checkKind(kind);
         checkPeriod(period);
@@ -166,7 +158,6 @@ public final class ApprovalGrid {
 
     // ---- charges and receipts
 
-    /** Lets a charge come today, and returns its number. */
     public int charge(int person, int kind, int land, int amount, int text)
             throws IndexOutOfBoundsException, IllegalArgumentException, IllegalStateException {
         Person spender = personAt(person);
@@ -188,7 +179,6 @@ public final class ApprovalGrid {
         return come.number;
     }
 
-    /** Lets a receipt come, and returns the charge with which it is matched, or NONE. */
     public int receipt(int amount, int day, int text) throws IllegalArgumentException, IllegalStateException {
         checkReceipt(amount, day, text);
         if (receipts.size() >= MOST_RECEIPTS) {
@@ -201,7 +191,6 @@ public final class ApprovalGrid {
         return numberOf(come.charge);
     }
 
-    /** Splits a matched charge and its receipt, and returns the state of the charge at the end. */
     public int split(int charge) throws IndexOutOfBoundsException, IllegalStateException {
         Charge parted = chargeAt(charge);
         checkState(parted, MATCHED);
@@ -211,7 +200,6 @@ public final class ApprovalGrid {
         return parted.state;
     }
 
-    /** Approves the next step of a charge, and returns the state of the charge then. */
     public int approve(int charge, int person) throws IndexOutOfBoundsException, IllegalStateException {
         Charge judged = chargeAt(charge);
         Person judge = personAt(person);
@@ -221,7 +209,6 @@ public final class ApprovalGrid {
         return judged.state;
     }
 
-    /** Refuses the next step of a charge, and returns how many charges are disputed then. */
     public int refuse(int charge, int person) throws IndexOutOfBoundsException, IllegalStateException {
         Charge judged = chargeAt(charge);
         Person judge = personAt(person);
@@ -231,7 +218,6 @@ public final class ApprovalGrid {
         return countInState(DISPUTED);
     }
 
-    /** Settles a disputed charge, and returns its state at the end. */
     public int settle(int charge, boolean isRepaid) throws IndexOutOfBoundsException, IllegalStateException {
         Charge settled = chargeAt(charge);
         checkState(settled, DISPUTED);
@@ -245,7 +231,6 @@ public final class ApprovalGrid {
         return settled.state;
     }
 
-    /** Returns the thing asked for of a charge. */
     public int ofCharge(int charge, int what) throws IndexOutOfBoundsException, IllegalArgumentException {
         Charge asked = chargeAt(charge);
         checkRange(what, 0, 11);
@@ -277,19 +262,16 @@ public final class ApprovalGrid {
         }
     }
 
-    /** Returns the charge of which a receipt is, or NONE. */
     public int ofReceipt(int receipt) throws IndexOutOfBoundsException {
         return numberOf(receiptAt(receipt).charge);
     }
 
-    /** Returns the score of a charge and a receipt, or NONE if they are too far from each other. */
     public int score(int charge, int receipt) throws IndexOutOfBoundsException {
         return scoreOf(chargeAt(charge), receiptAt(receipt));
     }
 
     // ---- days
 
-    /** Lets the next day begin, and returns how many charges are missing or repaid by that. */
     public int day() throws IllegalStateException {
         if (today >= LAST_DAY) {
             throw new IllegalStateException("it is the last day");
@@ -297,7 +279,9 @@ public final class ApprovalGrid {
         today++;
         int count = 0;
         for (int i = 0; i < charges.size(); i++) {
-            if (growOlder(charges.get(i))) {
+            Charge charge = charges.get(i);
+            if (isOverdue(charge)) {
+                bearDelay(charge);
                 count++;
             }
         }
@@ -305,7 +289,6 @@ public final class ApprovalGrid {
         return count;
     }
 
-    /** Returns the count or sum asked for. */
     public int many(int what) throws IllegalArgumentException {
         checkRange(what, 0, 12);
         switch (what) {
@@ -330,7 +313,6 @@ public final class ApprovalGrid {
         }
     }
 
-    /** Returns the mean trust of all people, not cut; 0 without any. */
     public double meanTrust() {
         int sum = 0;
         for (int i = 0; i < people.size(); i++) {
@@ -341,9 +323,9 @@ public final class ApprovalGrid {
 
     // ---- what would be (nothing is changed)
 
-    /** Returns the charge with which such a receipt would be matched, or NONE. */
     public int wouldMatch(int amount, int day, int text) throws IllegalArgumentException {
         checkReceipt(amount, day, text);
+        // Between calls no open charge goes together with a free receipt, so only the tried one can find a charge.
         Receipt tried = new Receipt(receipts.size(), amount, day, text);
         Charge best = null;
         int bestScore = NONE;
@@ -357,10 +339,10 @@ public final class ApprovalGrid {
         return numberOf(best);
     }
 
-    /** Returns the trust of a person behind so many days, if nothing else comes. */
     public int trustBehind(int person, int days) throws IndexOutOfBoundsException, IllegalArgumentException {
         Person asked = personAt(person);
         checkRange(days, 0, MOST_DAYS_BEHIND);
+        // Days alone never bring trust back, so all that is lost can be taken at once and cut at 0 in the end.
         int end = Math.min(today + days, LAST_DAY);
         int lost = 0;
         for (int i = 0; i < charges.size(); i++) {
@@ -372,14 +354,12 @@ public final class ApprovalGrid {
         return Math.max(asked.trust - lost, 0);
     }
 
-    /** Returns what would be left, if all open charges were matched. */
     public int leftWith(int kind, int period) throws IndexOutOfBoundsException {
         checkKind(kind);
         checkPeriod(period);
         return leftOf(kind, period, true);
     }
 
-    /** Computes a checksum of all that can be asked. */
     public long digest() {
         long sum = 58110;
         for (int what = 0; what <= 12; what++) {
@@ -555,6 +535,7 @@ public final class ApprovalGrid {
     // ---- how charges and receipts are matched
 
     private void matchPairs() {
+        // Each round takes an open charge away, so there are no more rounds than charges.
         boolean isAnyLeft = true;
         for (int round = 0; round < MOST_CHARGES && isAnyLeft; round++) {
             isAnyLeft = matchBestPair();
@@ -620,7 +601,7 @@ public final class ApprovalGrid {
 
     // ---- who approves
 
-    /** What stands at the end of each call that may have changed who approves what. */
+    /** The end of each call that can change who approves what; behind all others nothing would be left to pass. */
     private void passSteps() {
         for (int i = 0; i < charges.size(); i++) {
             Charge charge = charges.get(i);
@@ -654,19 +635,18 @@ public final class ApprovalGrid {
 
     // ---- how charges grow older
 
-    /** Returns whether the charge is missing or repaid by the day that begins. */
-    private boolean growOlder(Charge charge) {
+    private boolean isOverdue(Charge charge) {
         int age = today - charge.day;
-        if (charge.state != OPEN || (age != DAYS_TO_MISSING && age < DAYS_TO_REPAID)) {
-            return false;
-        }
-        if (age == DAYS_TO_MISSING) {
-            charge.wasMissing = true;
-        } else {
+        return charge.state == OPEN && (age == DAYS_TO_MISSING || age >= DAYS_TO_REPAID);
+    }
+
+    private void bearDelay(Charge charge) {
+        if (today - charge.day >= DAYS_TO_REPAID) {
             charge.state = REPAID;
+        } else {
+            charge.wasMissing = true;
         }
         charge.person.loseTrust();
-        return true;
     }
 
     private int trustLostBy(Charge open, int end) {
@@ -816,7 +796,6 @@ public final class ApprovalGrid {
             return isInside ? cells[row * columns + column] : 0;
         }
 
-        /** Puts a value, and returns the one before. */
         int replace(int row, int column, int value) {
             int before = at(row, column);
             if (row >= 0 && row < rows && column >= 0 && column < columns) {
@@ -826,7 +805,7 @@ public final class ApprovalGrid {
         }
     }
 
-    /** What is numbered from 0 in the order of its coming. */
+    /** Lets one numberOf() serve people, trips, charges and receipts, with NONE where there is none. */
     private abstract static class Numbered {
         final int number;
 
@@ -893,7 +872,7 @@ public final class ApprovalGrid {
         Receipt receipt = null;
         int steps = 0;
         boolean wasMissing = false;
-        /** The receipts from which it was split, one bit each. */
+        /** One bit for each receipt from which it was split; there are 30, and the one tried beyond them. */
         private int splits = 0;
 
         Charge(int number, Person person, int kind, int land, int amount, int text, int day) {
